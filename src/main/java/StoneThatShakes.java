@@ -394,7 +394,7 @@ public final class StoneThatShakes {
     private void feelWithHung(Pulls left, int speed, int hole, int w) {
         int baseX = feltBarePull(speed, ring.leadOfHoles(0, 0) + w * ring.x[hole], ring.leadOfHoles(1, 0), 0);
         int baseY = feltBarePull(speed, ring.leadOfHoles(0, 1) + w * ring.y[hole], ring.leadOfHoles(1, 1), 1);
-        left.feel(speeds.factor[speed] * crosses[0], baseX, baseY);
+        left.setSizes(speeds.factor[speed] * crosses[0], baseX, baseY);
     }
 
     private void prepareTrials() {
@@ -1447,7 +1447,7 @@ public final class StoneThatShakes {
             }
         }
 
-        void feel(int scale, int baseX, int baseY) {
+        void setSizes(int scale, int baseX, int baseY) {
             for (int i = 0; i < PULLS_WIDE; i++) {
                 long x = scale * (i - PULL_EDGE) + baseX;
                 long y = scale * (i - PULL_EDGE) + baseY;
