@@ -177,6 +177,10 @@ public final class PromiseTest {
             due("nothing was told", s.count(0) + s.count(1) + s.count(2), 0);
             due("the text is empty", s.count(8), 0);
         }
+        write(s, "c5;c5");
+        s.end(3);
+        due("signs that were cut off are not read", s.mill(), -4);
+        due("nothing was told", s.count(2), 0);
         due("a wrong end", mill(s, "c5;s1,1;h0,1,1,1;c"), -19);
         due("nothing was told", s.count(0) + s.count(1) + s.count(2), 0);
         due("an empty one", mill(s, ""), 0);
@@ -483,6 +487,18 @@ public final class PromiseTest {
         due("37 of at most 10", s.ends(), 37);
         row(s, -3, 3, -3, 3, 40);
         s.drop();
+        s.whole(0, 0, 0, 5);
+        s.whole(0, 6, 3, 5);
+        due("40", s.ends(), 40);
+        row(s, 1, 5, -2, 5, 16 + 49);
+        s.drop();
+        s.drop();
+        s.whole(0, 0, 0, 20);
+        s.whole(0, 40, 0, 20);
+        due("41", s.ends(), 41);
+        row(s, 20, 20, -20, 20, -1);
+        s.drop();
+        s.drop();
         s.much(0, 1, 12);
         due("36", s.ends(), 36);
         s.drop();
@@ -535,6 +551,22 @@ public final class PromiseTest {
         s.whole(0, 99, 0, 0);
         due("both", s.bars(), 2);
         row(s, 3);
+        s.whole(0, 60, 60, 0);
+        due("the last pull agrees", s.bars(), 2);
+        row(s, 3);
+        s.whole(0, -60, -60, 0);
+        due("no two", s.bars(), -2);
+        s.drop();
+        s.drop();
+        s.drop();
+        s.drop();
+        s.whole(0, 61, 60, 1);
+        s.whole(0, 61, 60, 2);
+        s.whole(0, 20, 60, 999);
+        due("at the edge", s.bars(), 0);
+        row(s, 0);
+        s.whole(0, 60, 61, 1);
+        due("at the corner alone", s.bars(), 0);
     }
 
     private static void narrowing() {
@@ -828,6 +860,10 @@ public final class PromiseTest {
         equal.think(0, -5, 0);
         due("all", equal.all(0, 1), 0);
         row(equal, 15);
+        StoneThatShakes either = told("h0,1,0,9;h0,1,0,9;h0,3,0,9");
+        either.think(0, -4, 0);
+        due("the first or the second with the third", either.all(0, 1), 0);
+        row(either, 5);
     }
 
     private static void ounces() {
