@@ -918,8 +918,8 @@ public final class PromiseTest {
         full.think(0, 99, 0);
         due("till all are empty", full.settle(0), 4);
         has(full, 0, 0);
-        StoneThatShakes many = told("h0,1,0,9;h0,1,0,9;h0,1,0,9;h0,1,0,9;h0,1,0,9;h0,1,0,9", "h0,1,0,9;h0,1,0,9;h0,1,0,9",
-                "h0,1,0,9;h0,1,0,9;h0,1,0,9;h0,-1,0,9;h0,-1,0,9;h0,-1,0,9", "h0,-1,0,9");
+        StoneThatShakes many = told("h0,1,0,9;h0,1,0,9;h0,1,0,9;h0,1,0,9;h0,1,0,9;h0,1,0,9",
+                "h0,1,0,9;h0,1,0,9;h0,1,0,9", "h0,1,0,9;h0,1,0,9;h0,1,0,9;h0,-1,0,9;h0,-1,0,9;h0,-1,0,9", "h0,-1,0,9");
         due("minus 36", many.sheet(2, 16, 0, 0), 0);
         for (int h = 12; h < 16; h++) {
             many.lead(h, 9);
