@@ -28,12 +28,14 @@ public final class EdgeTest {
         humming();
         trialsTold();
         pullsAgreeing();
+        leadsOfTrials();
         whichOnes();
         endsOfPulls();
         judged();
         barring();
         barringManyTrials();
         nexts();
+        nextsByBothAxes();
         enoughs();
         men();
         rests();
@@ -751,6 +753,28 @@ public final class EdgeTest {
         row(t, -24, -9, -24, -9);
     }
 
+    private static void leadsOfTrials() {
+        sentence = "Terms: each TRIAL with the LEADS that were when it was told, of both PLANES";
+        StoneThatShakes s = told("h0,3,1,9;h1,1,-2,9;s1,0;s2,0");
+        s.cross(0, 1, 2);
+        for (int t = 0; t < 12; t++) {
+            int lead0 = t % 9 + 1;
+            int lead1 = 9 - t % 9;
+            s.lead(0, lead0);
+            s.lead(1, lead1);
+            s.pound(t % 2, 1 + t);
+            int all0 = lead0 + (t % 2 == 0 ? 1 + t : 0);
+            int all1 = lead1 + (t % 2 == 1 ? 1 + t : 0);
+            int factor = 1 + t % 2;
+            due(s.whole(t % 2, factor * (5 + 3 * all0 + 2 * all1), factor * (-7 + all0 - 4 * all1), 0), t);
+        }
+        s.sheet(3, 0, 0, 0);
+        s.pound(-1, 0);
+        due(s.which(), 1);
+        row(s, 5, -7, 5, -7);
+        due(s.bars(), 0);
+    }
+
     private static void whichOnes() {
         sentence = "18: all, none, one; the first, and the last of them, by x, then y";
         StoneThatShakes s = told("s1,0");
@@ -983,6 +1007,58 @@ public final class EdgeTest {
             worst = Math.max(worst, many);
         }
         return worst;
+    }
+
+    private static void nextsByBothAxes() {
+        sentence = "22: HOLES that there are alone";
+        StoneThatShakes s = told("s1,0;h0,-1,0,9");
+        s.whole(0, 2, 0, 1);
+        due(s.next(0, 1), 3);
+        row(s, 0, 1);
+        sentence = "22: LEADS of both PLANES, x and y, and w ounces at each HOLE of PLANE 0";
+        StoneThatShakes t = told("s1,0;h0,1,2,9;h1,4,-3,9;h0,-2,1,9");
+        t.cross(0, 1, 2);
+        t.whole(0, 3, -2, 4);
+        for (int lead0 = 0; lead0 <= 3; lead0++) {
+            for (int lead1 = 0; lead1 <= 3; lead1++) {
+                t.lead(0, lead0);
+                t.lead(1, lead1);
+                int x = lead0 + 2 * lead1 * 4;
+                int y = 2 * lead0 - 2 * lead1 * 3;
+                int[] found = {1000, 0, 0};
+                for (int w = 1; w <= 4; w++) {
+                    found = narrower(found, worstOfNine(x + w, y + 2 * w), 0, w);
+                }
+                for (int w = 1; w <= 4; w++) {
+                    found = narrower(found, worstOfNine(x - 2 * w, y + w), 2, w);
+                }
+                due(t.next(0, 4), found[0]);
+                row(t, found[1], found[2]);
+            }
+        }
+    }
+
+    private static int[] narrower(int[] found, int worst, int hole, int w) {
+        return worst < found[0] ? new int[] {worst, hole, w} : found;
+    }
+
+    /** Of x -1 .. 7, y -6 .. 2 as many as are left at worst, if the SIZE with (byX, byY) is told. */
+    private static int worstOfNine(int byX, int byY) {
+        int worst = 0;
+        for (int one = 0; one < 81; one++) {
+            int many = 0;
+            for (int another = 0; another < 81; another++) {
+                many += sizeOfNine(one, byX, byY) == sizeOfNine(another, byX, byY) ? 1 : 0;
+            }
+            worst = Math.max(worst, many);
+        }
+        return worst;
+    }
+
+    private static int sizeOfNine(int place, int byX, int byY) {
+        int x = place / 9 - 1 + byX;
+        int y = place % 9 - 6 + byY;
+        return x * x + y * y;
     }
 
     private static void enoughs() {
@@ -1563,6 +1639,13 @@ public final class EdgeTest {
         s.pound(1, 20);
         due(s.both(0, 9, 2, 9, 2), 0);
         row(s, -4, 1, 0, 1, 0, 1, -29, 1);
+        sentence = "35: LEADS of both PLANES, x and y";
+        StoneThatShakes t = told("h0,1,2,9;h1,3,4,9;s2,0");
+        t.lead(0, 2);
+        t.lead(1, 3);
+        t.pound(1, 1);
+        due(t.both(0, 20, 40, 60, 80), 0);
+        row(t, 8, 1, 16, 1, 18, 1, 24, 1);
         sentence = "35: the greatest numbers";
         crosses(s, new int[] {9, 9, 9, -9});
         due(s.both(0, 99999, -99999, -99999, 99999), 0);
@@ -1871,6 +1954,14 @@ public final class EdgeTest {
         has(t, 0, 0, 1, 7, 0);
         t.pound(3, 20);
         due(t.buckets(0, 1), 5);
+        sentence = "42: by both numbers of a POINT";
+        StoneThatShakes up = told("h0,0,1,3;h0,1,0,1");
+        up.think(0, 0, 1);
+        due(up.buckets(0, 3), 1);
+        due(up.buckets(0, 4), 2);
+        due(up.buckets(0, 5), 3);
+        due(up.buckets(0, 10), 4);
+        due(up.buckets(0, 17), -2);
         sentence = "42: no HOLE; all full; 144 minutes";
         due(t.buckets(1, 0), -2);
         t.think(1, 1, 0);
@@ -1982,6 +2073,11 @@ public final class EdgeTest {
         StoneThatShakes x = told("c1;c2;h0,1,1,0;h0,1,1,0");
         due(x.round(), 0);
         row(x, 0, 1, 18);
+        sentence = "45: by both numbers of a POINT";
+        StoneThatShakes up = told("c1;c2;c3;h0,0,1,0;h0,0,2,0;h0,1,3,0");
+        due(up.cogs(), 9 + 14 * 14);
+        due(up.round(), 1);
+        row(up, 2, 1, 0, 1 + 10 * 10);
         sentence = "45: from the order as told on, each time";
         due(s.round(), 4);
         due(s.cogs(), 204 * 204);
@@ -2015,6 +2111,8 @@ public final class EdgeTest {
         due(s.again(2), true);
         due(s.hole(0, 4), 3);
         keptThings();
+        keptMasses();
+        keptTrials();
         toldSince();
         notKept();
     }
@@ -2064,6 +2162,51 @@ public final class EdgeTest {
         due(s.again(0), true);
         s.think(0, 5, 0);
         due(s.worst(), 25);
+    }
+
+    private static void keptTrials() {
+        sentence = "46: TRIALS, whole, with their LEADS; others that were told since are gone";
+        for (int order = 0; order < 2; order++) {
+            StoneThatShakes s = told("h0,1,2,9;h1,2,1,9;s1,0;s3,0");
+            s.cross(0, 1, 1);
+            s.lead(0, 3);
+            s.lead(1, 2);
+            s.pound(0, 2);
+            // With the PULL (4, -5) FELT is FACTOR times (4 + 5 + 4, -5 + 10 + 2).
+            for (int t = 0; t < 2; t++) {
+                due(t == order ? s.whole(1, 39, 21, 0) : s.much(0, 218, 218), t);
+            }
+            s.keep(1);
+            s.drop();
+            s.drop();
+            s.sheet(3, 0, 0, 0);
+            s.pound(1, 9);
+            for (int t = 0; t < 3; t++) {
+                due(t == order ? s.much(0, 5, 6) : s.whole(t, 7, 8, 500) >= 0 ? t : -1, t == 2 ? -1 : t);
+            }
+            due(s.again(1), true);
+            due(s.count(3), 2);
+            due(s.judge(4, -5), -2);
+            due(s.judge(5, -5), 0);
+            due(s.which(), 1);
+            row(s, 4, -5, 4, -5);
+            due(s.drop(), 1);
+            due(s.judge(4, -5), -2);
+            due(s.judge(4, -4), 0);
+            // Of (x + 9)^2 + (y + 12)^2 = 218 there are 8 POINTS in all: 13 and 7 either way.
+            due(s.which(), order == 0 ? 1 : 8);
+        }
+        sentence = "46: also at(), x and y";
+        StoneThatShakes s = told("s1,0;s1,0");
+        s.at(0, 3, 4);
+        s.at(1, 0, 1);
+        s.keep(0);
+        due(s.worst(), 25);
+        for (int[] other : new int[][] {{3, 0}, {0, 4}}) {
+            s.at(0, other[0], other[1]);
+            due(s.again(0), true);
+            due(s.worst(), 25);
+        }
     }
 
     private static long[] look(StoneThatShakes s) {
@@ -2129,6 +2272,46 @@ public final class EdgeTest {
         due(t.worst(), 0);
         due(t.count(0), 16);
         due(t.count(1), 6);
+        for (int one = 0; one < 6; one++) {
+            t.think(0, 5, 0);
+            for (int speed = 0; speed < 6; speed++) {
+                t.at(speed, 9, 9);
+            }
+            due(t.again(1), true);
+            t.think(0, 5, 0);
+            for (int speed = 0; speed < 6; speed++) {
+                if (speed != one) {
+                    t.at(speed, 0, 0);
+                }
+            }
+            // Were this one thought of apart still, it would be (0, 0) or (9, 9).
+            t.think(0, 3, 4);
+            due(t.worst(), 25);
+        }
+    }
+
+    private static void keptMasses() {
+        sentence = "46: what is THOUGHT: each MASS, x and y";
+        for (int what = 0; what < 4; what++) {
+            for (int axis = 0; axis < 2; axis++) {
+                StoneThatShakes s = told("s1,1");
+                for (int w = 0; w < 4; w++) {
+                    s.think(w, 10 + w, 20 + w);
+                }
+                s.keep(2);
+                s.think(what, axis == 0 ? 50 : 10 + what, axis == 1 ? 50 : 20 + what);
+                due(s.again(2), true);
+                due(s.rest(0), 100 + 400);
+                due(s.rest(1), 121 + 441);
+                s.think(2, 0, 0);
+                due(s.both(0, 0, 0, 0, 0), 0);
+                row(s, -13, 1, -23, 1, -13, 1, -23, 1);
+                due(s.again(2), true);
+                s.think(3, 0, 0);
+                due(s.both(0, 0, 0, 0, 0), 0);
+                row(s, -12, 1, -22, 1, -12, 1, -22, 1);
+            }
+        }
     }
 
     private static void notKept() {

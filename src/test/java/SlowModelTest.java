@@ -150,7 +150,7 @@ public final class SlowModelTest {
             int s = dice.nextInt(15) == 0 ? 9 : dice.nextInt(Math.max(1, model.speeds.size()));
             int p = dice.nextInt(20) == 0 ? 2 : dice.nextInt(3) == 0 ? 1 : 0;
             int b = dice.nextInt(20) == 0 ? -1 : dice.nextInt(2);
-            int far = dice.nextInt(3) == 0 ? 300 : 25;
+            int far = dice.nextInt(3) > 0 ? 25 : dice.nextInt(4) == 0 ? 9999 : 300;
             int x = dice.nextInt(2 * far + 1) - far;
             int y = dice.nextInt(2 * far + 1) - far;
             int pull = dice.nextInt(30) == 0 ? 61 : dice.nextInt(41) - 20;
@@ -159,7 +159,7 @@ public final class SlowModelTest {
                 case 0: case 1: call.with(h, dice.nextInt(11) - (dice.nextInt(9) == 0 ? 1 : 0)); break;
                 case 2: call.with(dice.nextInt(5), dice.nextInt(19) - 1, dice.nextInt(600) - 300, dice.nextInt(9) - 2);
                     break;
-                case 3: call.with(b, p, dice.nextInt(7) - 3 + (dice.nextInt(20) == 0 ? 9 : 0)); break;
+                case 3: call.with(b, p, dice.nextInt(4) == 0 ? dice.nextInt(21) - 10 : dice.nextInt(7) - 3); break;
                 case 4: case 5: call.with(dice.nextInt(4), x, y); break;
                 case 6: call.with(h, dice.nextInt(12)); break;
                 case 7: call.with(b, s); break;
@@ -516,7 +516,8 @@ public final class SlowModelTest {
         }
 
         long trial(int s, int kind, int a, int b, int give) {
-            if (!isSpeed(s) || trials.size() >= 12 || give > 999) {
+            boolean isFar = kind == 0 && (Math.abs(a) > 99999 || Math.abs(b) > 99999);
+            if (!isSpeed(s) || trials.size() >= 12 || give > 999 || isFar) {
                 return -1;
             }
             long[] l0 = leadOf(0, true);
